@@ -22,6 +22,9 @@ public final class EpochLedger {
     /** So many senders are all that can be waited for: the fourth may be the traitor. */
     private static final int MOST = 3;
 
+    /** Any so many parts give the proposal back. */
+    private static final int PARTS_NEEDED = 2;
+
     private static final int TRAITOR = 3;
     private static final int SPOKEN_LIMIT = 300;
     private static final int RUN_LIMIT = 60;
@@ -162,7 +165,7 @@ public final class EpochLedger {
         return tosses >>> ((epoch * NODES * ROUNDS + instance * ROUNDS + round) % 31) & 1;
     }
 
-    /** The bytes, parts, roots and witnesses; a proposal is held as p + 256 * q, a witness without its root as b of speak. */
+    /** Parts, roots and witnesses: a proposal is held as p + 256 * q, a witness without its root as b of speak. */
     private static final class Coding {
         /** What a product with 1, 2, 3 has to be multiplied by to be undone. */
         private static final int[] INVERSES = {0, 1, 141, 246};
@@ -454,13 +457,16 @@ public final class EpochLedger {
         }
 
         void takeProposalIfDue() {
+            if (proposal != NONE) {
+                return;
+            }
             int readier = readies.leastOfShared(MOST);
-            if (proposal != NONE || readier == NONE) {
+            if (readier == NONE) {
                 return;
             }
             int root = readies.roots[readier];
             int echoers = echoes.sendersOf(root);
-            if (Integer.bitCount(echoers) >= 2) {
+            if (Integer.bitCount(echoers) >= PARTS_NEEDED) {
                 int given = proposalOf(echoers);
                 proposal = Coding.rootOf(given) == root ? given : 0;
             }

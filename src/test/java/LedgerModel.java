@@ -363,6 +363,9 @@ final class LedgerModel {
         List<Msg> votes = there(node, instance, VOTE);
         for (int bit = 0; bit < 2; bit++) {
             if (withRoundAndBit(votes, inst.round, bit).size() >= 3 && !inst.good.contains(bit)) {
+                if (inst.good.isEmpty() && bit == 0 && withRoundAndBit(votes, inst.round, 1).size() >= 3) {
+                    count("both bits good at once");
+                }
                 inst.good.add(bit);
                 if (inst.good.size() == 2) {
                     count("both bits good, " + inst.good.get(0) + " first");

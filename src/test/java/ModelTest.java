@@ -10,9 +10,9 @@ public final class ModelTest {
     private static final String[] MUST_BE_SEEN = {
         "kept by an idle node", "kept for a later epoch", "witness not right", "not a first one",
         "echoes do not make their root", "ready by readies", "delivered", "delivered behind the input 0",
-        "vote by votes", "both bits good, 0 first", "both bits good, 1 first", "decided 0", "decided 1",
-        "estimate is the coin", "done by the coin", "done undecided", "done by the last round", "input 0",
-        "commit waits for a proposal", "over"};
+        "vote by votes", "both bits good, 0 first", "both bits good, 1 first", "both bits good at once",
+        "decided 0", "decided 1", "estimate is the coin", "done by the coin", "done undecided", "done by the last round",
+        "input 0", "commit waits for a proposal", "over"};
 
     private final Due due;
     private final int run;
@@ -88,6 +88,9 @@ public final class ModelTest {
                 int witness = LedgerModel.witnessFor(kind == 0 ? node : 3, codes.get(0));
                 speakBoth(i++, node, 0, 3, kind, LedgerModel.rootOf(codes.get(0)), witness);
             }
+            for (int bit = 0; bit < 2; bit++) {
+                speakBoth(i++, node, 0, 3, LedgerModel.VOTE, 0, chance(80) ? bit : next(2));
+            }
         }
         for (; i < CALLS && !due.hasWrong(); i++) {
             splitCall(i, next(3));
@@ -101,6 +104,9 @@ public final class ModelTest {
         }
         if (chance(10)) {
             instanceCall(i, node);
+        } else if (!allHaveInput && chance(40)) {
+            // Votes that are there before the input can make both bits good at once.
+            deliverBoth(i, node, model.firstWaiting(node, 3, LedgerModel.VOTE, true));
         } else if (!allHaveInput && (heldNodes >> node & 1) == 1) {
             heldCall(i, node);
         } else if (!allHaveInput || chance(10)) {
@@ -110,9 +116,12 @@ public final class ModelTest {
             int round = Math.max(model.instance(node, 3, 2), 0);
             speakBoth(i, node, epoch, 3, 3 + next(2), round, next(2));
         } else {
-            int k = next(model.waiting(node) + 1);
-            due.is(name(i, "deliver", node, k), model.deliver(node, k), ledger.deliver(node, k));
+            deliverBoth(i, node, next(model.waiting(node) + 1));
         }
+    }
+
+    private void deliverBoth(int i, int node, int k) {
+        due.is(name(i, "deliver", node, k), model.deliver(node, k), ledger.deliver(node, k));
     }
 
     private void runBoth(int i, int node, int n) {
@@ -154,8 +163,7 @@ public final class ModelTest {
             heldCall(i, node);
         } else if (chance(isWild ? 60 : 15)) {
             int waiting = Math.max(model.waiting(node), 0);
-            int k = chance(3) ? waiting : next(waiting + 1) - (chance(2) ? 1 : 0);
-            due.is(name(i, "deliver", node, k), model.deliver(node, k), ledger.deliver(node, k));
+            deliverBoth(i, node, chance(3) ? waiting : next(waiting + 1) - (chance(2) ? 1 : 0));
         } else {
             runBoth(i, node, chance(2) ? next(70) - 5 : next(haste + 1));
         }
@@ -167,8 +175,7 @@ public final class ModelTest {
         if (first > 0) {
             runBoth(i, node, Math.min(first, 60));
         } else {
-            int k = model.firstWaiting(node, heldInstance, heldKind, false);
-            due.is(name(i, "deliver", node, k), model.deliver(node, k), ledger.deliver(node, k));
+            deliverBoth(i, node, model.firstWaiting(node, heldInstance, heldKind, false));
         }
     }
 
