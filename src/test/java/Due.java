@@ -1,14 +1,17 @@
 /** Counts the answers that are not the ones that are due, and ends a test with exit code 1 if there was one. */
 final class Due {
     private static final int PRINTED_MOST = 40;
+    private String test = "";
     private int wrong = 0;
+
+    /** What is counted from here on is printed with this name. */
+    void under(String name) {
+        test = name + ": ";
+    }
 
     void is(String call, long want, long got) {
         if (got != want) {
-            wrong++;
-            if (wrong <= PRINTED_MOST) {
-                System.out.println(call + " answered " + got + ", due is " + want);
-            }
+            fault(call + " answered " + got + ", due is " + want);
         }
     }
 
@@ -18,6 +21,13 @@ final class Due {
 
     void no(String call, boolean got) {
         is(call, 0, got ? 1 : 0);
+    }
+
+    void fault(String text) {
+        wrong++;
+        if (wrong <= PRINTED_MOST) {
+            System.out.println(test + text);
+        }
     }
 
     boolean hasWrong() {

@@ -154,7 +154,7 @@ final class LedgerModel {
         return false;
     }
 
-    private List<Msg> unreached(int node) {
+    List<Msg> waitingFor(int node) {
         List<Msg> list = new ArrayList<>();
         for (Msg m : messages) {
             if (!m.reached[node]) {
@@ -246,7 +246,7 @@ final class LedgerModel {
 
     /** The place of the first message waiting that is, or is not, of an instance and kind; how many wait if none is. */
     int firstWaiting(int node, int instance, int kind, boolean isOf) {
-        List<Msg> list = unreached(node);
+        List<Msg> list = waitingFor(node);
         for (int k = 0; k < list.size(); k++) {
             Msg m = list.get(k);
             if ((m.instance == instance && m.kind == kind) == isOf) {
@@ -511,18 +511,18 @@ final class LedgerModel {
             return -1;
         }
         int count = 0;
-        while (count < n && !unreached(node).isEmpty()) {
-            reach(nodes[node], unreached(node).get(0));
+        while (count < n && !waitingFor(node).isEmpty()) {
+            reach(nodes[node], waitingFor(node).get(0));
             count++;
         }
         return count;
     }
 
     int deliver(int node, int k) {
-        if (!in(node, 3) || !in(k, unreached(node).size() - 1)) {
+        if (!in(node, 3) || !in(k, waitingFor(node).size() - 1)) {
             return -1;
         }
-        Msg m = unreached(node).get(k);
+        Msg m = waitingFor(node).get(k);
         reach(nodes[node], m);
         return m.kind;
     }
@@ -563,7 +563,7 @@ final class LedgerModel {
     }
 
     int waiting(int node) {
-        return in(node, 3) ? unreached(node).size() : -1;
+        return in(node, 3) ? waitingFor(node).size() : -1;
     }
 
     int instance(int node, int instance, int what) {
